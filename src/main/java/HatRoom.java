@@ -104,9 +104,9 @@ public final class HatRoom {
     private final Reader reader = new Reader(tokens);
     private final Mind mind = new Mind();
     private final Laws laws = new Laws();
-    private final Course course = new Course(mind, laws);
     private Text script = new Text();
     private Text spare = new Text();
+    private final Course course = new Course(mind, laws, script);
     private final State now = new State();
     private final State trial = new State();
     private final State image = new State();
@@ -1170,7 +1170,7 @@ public final class HatRoom {
         private final int[] operands = new int[MOST_KNOTS];
         private int height;
         private int open;
-        private Knots knots;
+        private Knots knots = new Knots();
         long needs;
 
         Formula(Tokens tokens) {
@@ -1396,7 +1396,7 @@ public final class HatRoom {
         // The bits of a packed world that each person sees.
         final int[] views = new int[MOST_PEOPLE];
         final int[] prizes = new int[MOST_PEOPLE];
-        int size = 1;
+        int size;
         int real;
         int people;
         int said;
@@ -1582,16 +1582,9 @@ public final class HatRoom {
             }
         }
 
-        private void clear(State s) {
-            joined = false;
-            for (int p = 0; p < s.size; p++) {
-                rows[p] = 0L;
-            }
-        }
-
         /** Works out those knots (bits) in all worlds left. */
         void judge(Text text, State s, long needs) {
-            clear(s);
+            joined = false;
             Knots knots = text.knots;
             for (int k = 0; k < knots.size; k++) {
                 if ((needs >>> k & 1L) == 0L) {
@@ -1797,9 +1790,11 @@ public final class HatRoom {
             return always ? 1 : never ? 0 : 2;
         }
 
-        /** Bit i of each row: whether person i knows his hat there. */
+        /** Of each row bit i: whether person i knows his hat there; the others are 0. */
         void judgeOwn(State s) {
-            clear(s);
+            for (int p = 0; p < s.size; p++) {
+                rows[p] = 0L;
+            }
             for (int i = 0; i < s.people; i++) {
                 knowsOwn(s, i, i);
             }
@@ -1961,9 +1956,10 @@ public final class HatRoom {
         private int otherwise = AS_TOLD;
         private int mute = NONE;
 
-        Course(Mind mind, Laws laws) {
+        Course(Mind mind, Laws laws, Text text) {
             this.mind = mind;
             this.laws = laws;
+            this.text = text;
         }
 
         /** By numbers or as it goes, and what is otherwise. */

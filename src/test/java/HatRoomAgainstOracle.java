@@ -140,7 +140,8 @@ public final class HatRoomAgainstOracle {
             stock[hats[i]]++;
         }
         for (int c = 0; c < colours; c++) {
-            line(out, "colour", "c" + (char) ('a' + c), "" + Math.min(6, stock[c] + below(3)));
+            // The Oracle is slow: a large room has few worlds more than it must.
+            line(out, "colour", "c" + (char) ('a' + c), "" + Math.min(6, stock[c] + below(people > 4 ? 2 : 3)));
         }
         for (int i = 0; i < people; i++) {
             line(out, "person", "p" + (char) ('a' + i), "c" + (char) ('a' + hats[i]));
@@ -152,7 +153,7 @@ public final class HatRoomAgainstOracle {
         for (int f = 0; f < wanted; f++) {
             out.add("fact");
             out.add("f" + (char) ('a' + f));
-            formula(out, 1 + below(4));
+            formula(out, 1 + below(people > 4 ? 3 : 4));
             out.add(";");
             facts++;
         }
@@ -530,14 +531,14 @@ public final class HatRoomAgainstOracle {
     private static void run(long seed, int mostPeople) {
         HatRoomAgainstOracle run = new HatRoomAgainstOracle(seed);
         run.log.add("-- run " + seed);
-        for (int texts = 1 + run.below(2); texts > 0; texts--) {
+        for (int texts = 1 + run.below(4); texts > 0; texts--) {
             List<String> text = run.drawText(mostPeople);
             byte[] bytes = run.write(text);
             if (bytes.length > 700) {
                 return;
             }
             run.load(bytes);
-            for (int i = 0; i < 60; i++) {
+            for (int i = 0; i < 45; i++) {
                 run.ask();
             }
             run.all();
@@ -580,7 +581,7 @@ public final class HatRoomAgainstOracle {
     }
 
     public static void main(String[] args) {
-        int runs = args.length > 0 ? Integer.parseInt(args[0]) : 500;
+        int runs = args.length > 0 ? Integer.parseInt(args[0]) : 2000;
         for (int i = 0; i < runs; i++) {
             run(i, 4);
         }

@@ -2,8 +2,11 @@ import java.util.ArrayDeque;
 import java.util.ArrayList;
 import java.util.Arrays;
 import java.util.Deque;
+import java.util.HashMap;
 import java.util.HashSet;
+import java.util.IdentityHashMap;
 import java.util.List;
+import java.util.Map;
 import java.util.NoSuchElementException;
 import java.util.Set;
 
@@ -597,15 +600,13 @@ final class Oracle {
 
     private List<int[]> reach(Now s, int[] w) {
         List<int[]> met = new ArrayList<>();
+        Set<String> known = new HashSet<>();
         met.add(w);
+        known.add(Arrays.toString(w));
         for (int i = 0; i < met.size(); i++) {
             for (int p = 0; p < people(); p++) {
                 for (int[] v : alike(s, p, met.get(i))) {
-                    boolean known = false;
-                    for (int[] u : met) {
-                        known |= Arrays.equals(u, v);
-                    }
-                    if (!known) {
+                    if (known.add(Arrays.toString(v))) {
                         met.add(v);
                     }
                 }
@@ -622,7 +623,28 @@ final class Oracle {
         return colours.size() == 1;
     }
 
+    // What was found out of the worlds of one list; else formulas in formulas would take too long.
+    private List<int[]> foundIn;
+    private final Map<Node, Map<Integer, Boolean>> found = new IdentityHashMap<>();
+
     private boolean so(Now s, Node f, int[] w) {
+        if (foundIn != s.left) {
+            foundIn = s.left;
+            found.clear();
+        }
+        int key = 0;
+        for (int c : w) {
+            key = key * 3 + c;
+        }
+        Boolean known = found.computeIfAbsent(f, g -> new HashMap<>()).get(key);
+        if (known == null) {
+            known = workOut(s, f, w);
+            found.get(f).put(key, known);
+        }
+        return known;
+    }
+
+    private boolean workOut(Now s, Node f, int[] w) {
         switch (f.op) {
             case "hat":
                 return w[f.a] == f.b;
@@ -1066,6 +1088,7 @@ final class Oracle {
             return -2;
         }
         remember(now.copy());
+        found.clear();
         now.sees.get(person).add(other);
         return alike(now, person, truth()).size();
     }
