@@ -1790,11 +1790,8 @@ public final class HatRoom {
             return always ? 1 : never ? 0 : 2;
         }
 
-        /** Of each row bit i: whether person i knows his hat there; the others are 0. */
+        /** Of each row bit i: whether person i knows his hat there. The higher bits mean nothing. */
         void judgeOwn(State s) {
-            for (int p = 0; p < s.size; p++) {
-                rows[p] = 0L;
-            }
             for (int i = 0; i < s.people; i++) {
                 knowsOwn(s, i, i);
             }
@@ -1928,7 +1925,8 @@ public final class HatRoom {
                 case MINUS:
                     return a - b;
                 case TIMES:
-                    return product(a, b);
+                    // Tested ahead of multiplying: a product of two values may be beyond a long.
+                    return b == 0 || Math.abs(a) <= MOST_VALUE / Math.abs(b) ? a * b : ERROR;
                 default:
                     return b == 0 ? ERROR : a / b;
             }
@@ -1936,14 +1934,6 @@ public final class HatRoom {
 
         private static long truth(boolean so) {
             return so ? 1L : 0L;
-        }
-
-        /** Tested ahead of multiplying: a product of two values may be beyond a long. */
-        private static long product(long a, long b) {
-            if (b == 0) {
-                return 0L;
-            }
-            return Math.abs(a) > MOST_VALUE / Math.abs(b) ? ERROR : a * b;
         }
     }
 
@@ -2009,7 +1999,7 @@ public final class HatRoom {
         int askAll(State s) {
             mind.judgeOwn(s);
             long[] rows = mind.rows;
-            int know = (int) rows[s.real];
+            int know = (int) rows[s.real] & (1 << s.people) - 1;
             int knew = Integer.bitCount(know);
             int says = 0;
             int plain = 0;

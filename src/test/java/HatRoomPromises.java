@@ -373,7 +373,19 @@ public final class HatRoomPromises {
         HatRoom y = room("colour red 1;colour white 2;person a red;person b white;sees a b;sees b a;");
         due("own(1)", y.own(1), 1);
         due("own(0)", y.own(0), -2);
+        StringBuilder six = new StringBuilder("colour r 6;colour w 6;");
+        for (char c = 'a'; c <= 'f'; c++) {
+            six.append("person ").append(c).append(" w;");
+        }
+        HatRoom many = room(six + "sees a f;sees b a c d e f;");
+        due("alike", many.person(5, 5), 64);
+        due("alike", many.person(0, 5), 32);
+        due("alike", many.person(1, 5), 2);
         promise = 8;
+        due("world(62, 5)", many.world(62, 5), 0);
+        due("world(62, 0)", many.world(62, 0), 1);
+        due("world(1, 5)", many.world(1, 5), 1);
+        due("real()", many.real(), 63);
         // rrr rrw rwr rww wrr wrw wwr
         due("world(3, 0)", x.world(3, 0), 0);
         due("world(3, 1)", x.world(3, 1), 1);
@@ -445,6 +457,17 @@ public final class HatRoomPromises {
         due("common(1)", chain.common(1), 1);
         due("likely(2, 1)", chain.likely(2, 1), 4);
         due("likely(3, 0)", chain.likely(3, 0), 3);
+        // aca baa bba bcb are left: q ties the last three by p, s the first and the last one by q.
+        HatRoom tied = room("colour a 6;colour b 6;colour c 6;person p a;person q c;person s a;sees p q s;sees q p;sees s q;"
+                + "fact four hat p a and hat q c and hat s a or hat p b and hat q a and hat s a or hat p b and hat q b and"
+                + " hat s a or hat p b and hat q c and hat s b;fact i not hat q a;fact ii not hat q b;fact iii not hat s b;");
+        due("tell(0)", tied.tell(0), 4);
+        due("parts()", tied.parts(), 1);
+        for (int f = 1; f <= 3; f++) {
+            due("common(" + f + ")", tied.common(f), 0);
+        }
+        HatRoom first = room("colour a 6;colour b 6;person p b;person q b;sees p q;sees q p;fact f many b 1;");
+        due("common(0)", first.common(0), 0);
         promise = 13;
         HatRoom y = room("colour red 3;colour white 3;person a red;person b red;person c red;"
                 + "sees a b c;sees b a c;sees c a b;fact one many red 1;fact two many red 2;fact no many white 1;");
@@ -503,6 +526,8 @@ public final class HatRoomPromises {
         due("order", room(one + "2+3*4-6/2;").law(0, 0), 11);
         due("order", room(one + "not 1=2 and 3-1-1;").law(0, 0), 1);
         due("order", room(one + "1 or 0 and 0;").law(0, 0), 1);
+        due("order", room(one + "1+2<3;").law(0, 0), 0);
+        due("order", room(one + "9-2>2*3 and 7/2=3;").law(0, 0), 1);
     }
 
     private static void tellingByCall() {
@@ -562,6 +587,12 @@ public final class HatRoomPromises {
         due("prize above", prize(knower + "law prize 1000;"), 999);
         due("prize below", prize(knower + "law prize 0-1;"), 0);
         due("nobody", new HatRoom().ask(), 0);
+        // What was worked out of facts ahead of asking has no part in how many KNOW.
+        due("knew", prize(knower + "fact f not (not (not (not (not (not (not (not own q)))))));tell f 0;law prize knew;"), 1);
+        HatRoom heard = room(knower + "fact f own p or not (not (not (own p and own p and own p or own p)));law prize knew;");
+        heard.tell(0);
+        heard.ask();
+        due("knew", heard.person(0, 3), 1);
         // The second one hears the first one in the same asking: said is 1 for him.
         HatRoom turn = room("colour r 2;person p r;person q r;law hush said*100;");
         due("ask()", turn.ask(), 1);
