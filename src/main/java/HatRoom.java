@@ -1238,7 +1238,7 @@ public final class HatRoom {
             if (kind == NUMBER && !tokens.isNumber(9999) || !mayBegin()) {
                 return WRONG;
             }
-            push(knots.add(kind, tokens.value(), 0));
+            push(knots.add(kind, kind == NUMBER ? tokens.value() : 0, 0));
             tokens.step();
             return BEHIND;
         }
@@ -1458,8 +1458,10 @@ public final class HatRoom {
         }
 
         void see(int person, int other) {
-            sees[person] |= 1 << other;
-            views[person] |= 3 << shiftOf(other);
+            if (person >= 0 && person < MOST_PEOPLE && other >= 0 && other < MOST_PEOPLE) {
+                sees[person] |= 1 << other;
+                views[person] |= 3 << shiftOf(other);
+            }
         }
 
         private void seeThese(int person, int others) {
@@ -1571,7 +1573,7 @@ public final class HatRoom {
         private final boolean[] barred = new boolean[256];
 
         int bit(int p, int bit) {
-            return (int) (rows[p] >>> bit & 1L);
+            return p >= 0 && p < rows.length ? (int) (rows[p] >>> bit & 1L) : 0;
         }
 
         private void set(int p, int bit, boolean so) {
