@@ -3,7 +3,7 @@ import java.util.NoSuchElementException;
 
 /** The largest rooms, and wrong numbers for every call: nothing but what person() promises is ever thrown. */
 public final class HatRoomLimits {
-    private static final int[] ODD = {Integer.MIN_VALUE, -1000, -3, -2, -1, 0, 1, 2, 3, 4, 5, 6, 7, 8, 9, 12, 13, 14, 20,
+    private static final int[] ODD = {Integer.MIN_VALUE, -1000, -3, -2, -1, 0, 1, 2, 3, 4, 5, 6, 7, 8, 9, 10, 11, 12, 13, 14, 20,
         63, 64, 99, 100, 199, 200, 201, 728, 729, 9800, 65536, 1 << 30, Integer.MAX_VALUE - 1, Integer.MAX_VALUE};
     private static final String[] ROOMS = {
         "",
