@@ -23,7 +23,7 @@ public final class HatRoom {
     private static final int MOST_HOURS = 200;
     private static final int MOST_DEPTH = 20;
     private static final int LAST_TOLD_HOUR = 99;
-    private static final int LAST_START = 9800;
+    private static final int LAST_HOUR = 9800;
 
     // A world is packed: two bits a person, the first one highest, so worlds sort as numbered.
     private static final int KEYS = 4096;
@@ -324,7 +324,7 @@ public final class HatRoom {
     }
 
     public int go(int n) {
-        if (n < 0 || n > MOST_HOURS || now.hour > LAST_START) {
+        if (n < 0 || n > MOST_HOURS || now.hour + n > LAST_HOUR) {
             return NONE;
         }
         if (n > 0) {

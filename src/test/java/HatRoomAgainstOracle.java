@@ -553,6 +553,22 @@ public final class HatRoomAgainstOracle {
             }
             run.all();
         }
+        if (run.below(40) == 0) {
+            run.goTillRefused();
+        }
+    }
+
+    /** Hours go by until no more do, whichever the number. */
+    private void goTillRefused() {
+        for (int i = 0; i < 120; i++) {
+            if (below(4) == 0) {
+                due("ask()", room.ask(), oracle.ask());
+            }
+            int n = below(40) == 0 ? some(2) : i < 40 ? 200 : below(201);
+            due("go(" + n + ")", room.go(n), oracle.go(n));
+            due("count(13)", room.count(13), oracle.count(13));
+        }
+        all();
     }
 
     private static void runFaults(long seed) {

@@ -632,6 +632,27 @@ public final class HatRoomPromises {
         due("left", x.count(7), 2);
     }
 
+    /** "Behind 9800" is asked of the hour that it would be. */
+    private static void lastHour() {
+        HatRoom x = new HatRoom();
+        for (int i = 1; i <= 48; i++) {
+            due("go(200)", x.go(200), 200 * i);
+        }
+        due("go(1)", x.go(1), 9601);
+        x.ask();
+        due("to 9801", x.go(200), -1);
+        due("none goes by", x.count(6), 9601);
+        due("what can be undone stays", x.count(13), 1);
+        due("to 9800", x.go(199), 9800);
+        due("nothing to undo then", x.count(13), 0);
+        due("to 9801", x.go(1), -1);
+        due("to 10000", x.go(200), -1);
+        due("at 9800 none goes by", x.go(0), 9800);
+        due("ahead(200, 0, 0)", x.ahead(200, 0, 0), 1);
+        due("tried(0, 0, 200)", x.tried(0, 0, 200), 1);
+        due("count(6)", x.count(6), 9800);
+    }
+
     private static void going() {
         promise = 18;
         HatRoom x = room(WISE + "tell one 1;tell no 1;tell no 1;ask 0;ask 1;ask 1;ask 99;");
@@ -646,14 +667,7 @@ public final class HatRoomPromises {
         due("go(201)", x.go(201), -1);
         due("go(-1)", x.go(-1), -1);
         due("hour", x.count(6), 2);
-        HatRoom y = new HatRoom();
-        for (int i = 1; i <= 49; i++) {
-            due("go(200)", y.go(200), 200 * i);
-        }
-        due("at 9800", y.go(1), 9801);
-        due("behind 9800", y.go(1), -1);
-        due("behind 9800", y.go(0), -1);
-        due("count(6)", y.count(6), 9801);
+        lastHour();
         // Numbers from the seed on: 1 gives 16838, 5758, 10113, 17515: modulo 100: 38, 58, 13, 15.
         String two = "colour r 2;person p r;person q r;ask 0;ask 0;seed 1;";
         due("seed 1, shy 39", said(two + "shy 39;", 1), 2);

@@ -1094,7 +1094,7 @@ final class Oracle {
     }
 
     int go(int n) {
-        if (n < 0 || n > 200 || now.hour > 9800) {
+        if (n < 0 || n > 200 || now.hour + n > 9800) {
             return -1;
         }
         hours(now, n, true, -1, -1);
