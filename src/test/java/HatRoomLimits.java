@@ -1,8 +1,5 @@
-import java.nio.charset.StandardCharsets;
-import java.util.NoSuchElementException;
-
 /** The largest rooms, and wrong numbers for every call: nothing but what person() promises is ever thrown. */
-public final class HatRoomLimits {
+public final class HatRoomLimits extends Checks {
     private static final int[] ODD = {Integer.MIN_VALUE, -1000, -3, -2, -1, 0, 1, 2, 3, 4, 5, 6, 7, 8, 9, 10, 11, 12, 13, 14, 20,
         63, 64, 99, 100, 199, 200, 201, 728, 729, 9800, 65536, 1 << 30, Integer.MAX_VALUE - 1, Integer.MAX_VALUE};
     private static final String[] ROOMS = {
@@ -22,7 +19,6 @@ public final class HatRoomLimits {
             + "law hush " + "1+".repeat(31) + "1;",
     };
 
-    private static int wrong = 0;
     private static long calls = 0;
 
     private static void check(boolean holds, String what) {
@@ -31,20 +27,6 @@ public final class HatRoomLimits {
             wrong++;
             System.out.println(what);
         }
-    }
-
-    private static HatRoom room(String text) {
-        byte[] bytes = text.getBytes(StandardCharsets.ISO_8859_1);
-        HatRoom x = new HatRoom();
-        for (int i = 0; i < bytes.length; i += 20) {
-            int[] n = new int[5];
-            for (int k = 0; k < 20; k++) {
-                n[k / 4] = n[k / 4] << 8 | (i + k < bytes.length ? bytes[i + k] & 255 : 32);
-            }
-            x.feed(n[0], n[1], n[2], n[3], n[4]);
-        }
-        check(x.text(bytes.length) >= 0, "fault " + x.fault(0) + " at " + x.fault(1) + " of " + text);
-        return x;
     }
 
     private static void oneNumber(HatRoom x, int a) {
@@ -73,15 +55,7 @@ public final class HatRoomLimits {
         boolean two = person && b >= 0 && b < people && a != b;
         boolean fact = b >= 0 && b < x.count(2);
         x.named(a, b);
-        int thrown = 0;
-        try {
-            x.person(a, b);
-        } catch (IndexOutOfBoundsException e) {
-            thrown = 1;
-        } catch (NoSuchElementException e) {
-            thrown = 2;
-        }
-        check(thrown == (!person ? 1 : b < 0 || b > 5 ? 2 : 0), "person " + a + " " + b);
+        check(thrown(x, a, b) == (!person ? 1 : b < 0 || b > 5 ? 2 : 0), "person " + a + " " + b);
         check(x.world(a, b) == -1 == !(a >= 0 && b >= 0 && b < people), "world " + a + " " + b);
         check(x.sure(a, b) == -1 == !(person && fact), "sure " + a + " " + b);
         check(x.law(b, a) == Long.MIN_VALUE || person && (b == 0 || b == 1), "law " + b + " " + a);
@@ -148,9 +122,6 @@ public final class HatRoomLimits {
             }
             check(x.count(6) == 9000, "hour");
         }
-        System.out.println(calls + " checks at the limits, " + wrong + " wrong");
-        if (wrong != 0) {
-            System.exit(1);
-        }
+        finish(calls + " checks at the limits");
     }
 }

@@ -1,91 +1,10 @@
-import java.nio.charset.StandardCharsets;
-import java.util.NoSuchElementException;
-
 /** Promise by promise: answers worked out by hand from the document. */
-public final class HatRoomPromises {
+public final class HatRoomPromises extends Checks {
     /** Three reds of three reds and two whites, each sees both others: seven worlds, all but white thrice. */
     private static final String WISE = "colour red 3;colour white 2;person a red;person b red;person c red;"
             + "sees a b c;sees b a c;sees c a b;fact one many red 1;fact two many red 2;fact mine own a;"
             + "fact no hat a white;fact deep all all many red 1;";
     private static final String THRICE = "ask 0;ask 1;ask 2;";
-
-    private static int wrong = 0;
-    private static int checks = 0;
-    private static int promise = 0;
-
-    private static void due(String what, long got, long want) {
-        checks++;
-        if (got != want) {
-            wrong++;
-            System.out.println("promise " + promise + ": " + what + " answered " + got + ", due is " + want);
-        }
-    }
-
-    private static int feedAll(HatRoom x, String text) {
-        byte[] bytes = text.getBytes(StandardCharsets.ISO_8859_1);
-        int has = 0;
-        for (int i = 0; i < bytes.length; i += 20) {
-            int[] n = new int[5];
-            for (int k = 0; k < 20; k++) {
-                n[k / 4] = n[k / 4] << 8 | (i + k < bytes.length ? bytes[i + k] & 255 : 33);
-            }
-            has = x.feed(n[0], n[1], n[2], n[3], n[4]);
-        }
-        return has;
-    }
-
-    private static int load(HatRoom x, String text) {
-        feedAll(x, text);
-        return x.text(text.length());
-    }
-
-    private static HatRoom room(String text) {
-        HatRoom x = new HatRoom();
-        if (load(x, text) < 0) {
-            wrong++;
-            System.out.println("promise " + promise + ": fault " + x.fault(0) + " at " + x.fault(1) + ": " + text);
-        }
-        return x;
-    }
-
-    /** A text with a fault: which one and where. */
-    private static void faulty(String text, int what, int place) {
-        HatRoom x = new HatRoom();
-        due("text of \"" + text + "\"", load(x, text), -1);
-        due("fault(0) of \"" + text + "\"", x.fault(0), what);
-        due("fault(1) of \"" + text + "\"", x.fault(1), place);
-    }
-
-    private static void fine(String text, int lines) {
-        HatRoom x = new HatRoom();
-        due("text of \"" + text + "\"", load(x, text), lines);
-        due("fault(0) of \"" + text + "\"", x.fault(0), 0);
-        due("fault(1) of \"" + text + "\"", x.fault(1), -1);
-    }
-
-    /** 1: IndexOutOfBoundsException, 2: NoSuchElementException, 0: none. */
-    private static int thrown(HatRoom x, int person, int what) {
-        try {
-            x.person(person, what);
-            return 0;
-        } catch (IndexOutOfBoundsException e) {
-            return 1;
-        } catch (NoSuchElementException e) {
-            return 2;
-        }
-    }
-
-    private static int letters(String name) {
-        int code = 0;
-        for (int i = 0; i < 6; i++) {
-            code = code << 5 | (i < name.length() ? name.charAt(i) - 'a' + 1 : 0);
-        }
-        return code;
-    }
-
-    private static String times(String word, int n) {
-        return word.repeat(n);
-    }
 
     private static void aNewObject() {
         promise = 1;
@@ -265,14 +184,14 @@ public final class HatRoomPromises {
         String eight = "((((((((own p))))))))";
         fine(two + "fact f " + eight + " and " + eight + ";", 4);
         faulty(two + "fact f (" + eight + ");", 2, n + 15);
-        faulty("law prize " + times("(", 9) + "1" + times(")", 9) + ";", 2, 18);
-        fine("law prize " + times("(", 8) + "1" + times(")", 8) + ";", 1);
-        HatRoom x = room(two + "fact f " + times("not ", 63) + "own p;");
+        faulty("law prize " + "(".repeat(9) + "1" + ")".repeat(9) + ";", 2, 18);
+        fine("law prize " + "(".repeat(8) + "1" + ")".repeat(8) + ";", 1);
+        HatRoom x = room(two + "fact f " + "not ".repeat(63) + "own p;");
         due("count(5)", x.count(5), 64);
-        faulty(two + "fact f " + times("not ", 64) + "own p;", 2, n + 7 + 256);
-        faulty(two + "fact f " + times("not ", 62) + "own p;law hush 1+1;", 2, n + 7 + 248 + 6 + 10);
-        fine("law hush 1" + times("+1", 31) + ";law prize 2;", 2);
-        faulty("law hush 1" + times("+1", 31) + ";law prize 2+2;", 2, 83 + 1);
+        faulty(two + "fact f " + "not ".repeat(64) + "own p;", 2, n + 7 + 256);
+        faulty(two + "fact f " + "not ".repeat(62) + "own p;law hush 1+1;", 2, n + 7 + 248 + 6 + 10);
+        fine("law hush 1" + "+1".repeat(31) + ";law prize 2;", 2);
+        faulty("law hush 1" + "+1".repeat(31) + ";law prize 2+2;", 2, 83 + 1);
     }
 
     private static void faultsOfLines() {
@@ -281,16 +200,16 @@ public final class HatRoomPromises {
         faulty("colour r 99999999999999999999;", 2, 9);
         faulty("colour a 1;colour b 1;colour c 1;colour 1;", 2, 33);
         faulty("colour r 6;" + "person a r;person b r;person c r;person d r;person e r;person f r;person g r;", 2, 77);
-        faulty("colour r 1;" + times("fact f own p;", 1), 4, 22);
+        faulty("colour r 1;" + "fact f own p;".repeat(1), 4, 22);
         String facts = "colour r 1;";
         for (char c = 'a'; c <= 'h'; c++) {
             facts += "fact " + c + " many r 1;";
         }
         fine(facts, 9);
         faulty(facts + "fact i many r 1;", 2, facts.length());
-        fine(facts + times("tell a 99;", 12) + times("ask 99;", 12), 33);
-        faulty(facts + times("tell a 99;", 12) + "tell", 2, facts.length() + 120);
-        faulty(times("ask 99;", 12) + "ask 1;", 2, 84);
+        fine(facts + "tell a 99;".repeat(12) + "ask 99;".repeat(12), 33);
+        faulty(facts + "tell a 99;".repeat(12) + "tell", 2, facts.length() + 120);
+        faulty("ask 99;".repeat(12) + "ask 1;", 2, 84);
         faulty(facts + "tell a 100;", 2, facts.length() + 7);
         faulty("ask 100;", 2, 4);
         faulty("shy 101;", 2, 4);
@@ -1065,9 +984,6 @@ public final class HatRoomPromises {
         trying();
         undoingAndImages();
         counting();
-        System.out.println(checks + " checks of promises 1 to 36, " + wrong + " wrong");
-        if (wrong != 0) {
-            System.exit(1);
-        }
+        finish(checks + " checks of promises 1 to 36");
     }
 }
