@@ -40,7 +40,8 @@ abstract class Checks {
         checks++;
         if (got != want) {
             wrong++;
-            System.out.println("promise " + promise + words + ": " + call + " answered " + got + ", due is " + want);
+            String where = promise > 0 ? "promise " + promise + words + ": " : "";
+            System.out.println(where + call + " answered " + got + ", due is " + want);
         }
     }
 
